@@ -71,6 +71,8 @@ public final class BilletTest {
     x.each(60);
     due.is("19: another house, late", x.loudFor(2, 0, 34), 0);
     due.is("19: 60", x.loudFor(1, 0, 60), 2);
+    x.change(0, 2, 100);
+    due.is("19: now", x.loudFor(1, 0, 0), 0);
     due.is("19: nothing changed", x.houseOf(1, 0), 3);
   }
 
@@ -88,6 +90,14 @@ public final class BilletTest {
     // Later is dearer: in year 59 its grain is 60, so 6; 59 is the one that comes just then.
     due.is("20: 60", x.eachFor(60), 59);
     due.is("20: nothing changed", x.each(30), 30);
+    // In a house of loud 1 it rings but once in 60 years: grain 160 in year 60, 159 in year 59.
+    ListenWood y = new ListenWood();
+    y.go(1);
+    y.plank(0, 1);
+    y.house(1, 0, 1);
+    y.change(0, 2, 100);
+    due.is("20: as late as can be", y.eachFor(60), 60);
+    due.is("20: a year less", y.eachFor(59), 50);
   }
 
   private static void moveAll() {
@@ -110,11 +120,16 @@ public final class BilletTest {
     due.is("21: to the still", x.moveAll(0, 12), Due.NONE);
     x.change(1, 2, 90);
     due.is("21: no one", x.moveAll(1, 12), 0);
+    due.is("21: not now", x.moveAll(1, 0), Due.NONE);
     due.is("21: nothing changed", x.houseOf(0, 2), 3);
     x.change(0, 2, 89);
     x.change(1, 2, 89);
     x.change(2, 2, 89);
-    due.is("21: too early by a year", x.moveAll(1, 3), 3);
+    due.is("21: both again", x.moveAll(1, 3), 3);
+    for (int p = 0; p < 3; p++) {
+      x.change(p, 2, 100);
+    }
+    due.is("21: now", x.moveAll(1, 0), 0);
   }
 
   private static void moveAllOfMany() {

@@ -120,6 +120,7 @@ public final class FeudsTest {
     due.is("25: n 21", x.odds(0, 0, 21, 0), Due.BEYOND);
     due.is("25: what -1", x.odds(0, 0, 0, -1), Due.BEYOND);
     due.is("25: what 2", x.odds(0, 0, 0, 2), Due.BEYOND);
+    fraction(x, 0, 1, 1, 1);
     fraction(x, 3, 20, 1, 1);
     fraction(x, 4, 1, 0, 1);
     fraction(x, 4, 0, 1, 1);

@@ -83,6 +83,9 @@ public final class TextTest {
     due.is("29: mood 5", x.houseOf(1, 1), 5);
     due.is("29: neither", Due.text(x, "house 1"), 1);
     due.is("29: mood stays again", x.houseOf(1, 1), 5);
+    due.is("29: the last house", Due.text(x, "house 5 loud 4;house 0 mood 0"), 2);
+    due.is("29: loud 4", x.houseOf(5, 0), 4);
+    due.is("29: mood 0", x.houseOf(0, 1), 0);
     due.is("29: item by item", Due.text(x, "house 2 mood 5;house 2 mood 6"), 2);
     due.is("29: the later", x.houseOf(2, 1), 6);
   }
@@ -130,6 +133,8 @@ public final class TextTest {
     fault("Fir", 0);
     fault("fi", 0);
     fault("firs", 0);
+    fault("firz", 0);
+    fault("fira", 0);
     fault(" firs", 1);
     fault("fir;", 4);
     fault("fir; ", 5);

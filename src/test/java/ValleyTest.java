@@ -171,12 +171,17 @@ public final class ValleyTest {
   private static void follows() {
     allAre("follows, gap 50", ofAllKinds(3, 50), 8, 5, 10, 6, 12, 0, 5, 10);
     allAre("follows, gap 9", ofAllKinds(3, 9), 8, 0, 1, 1, 2, 0, 0, 1);
+    allAre("follows, gap 10", ofAllKinds(3, 10), 8, 1, 2, 2, 4, 0, 1, 2);
     allAre("follows, gap 0", ofAllKinds(3, 0), 8, 0, 0, 0, 0, 0, 0, 0);
     ListenWood x = ofAllKinds(3, 10);
     for (int kind = 0; kind < 7; kind++) {
       x.change(kind, 3, 49);
     }
     allAre("follows, gap -39", x, 8, -3, -7, -3, -6, 0, -3, -7);
+    for (int kind = 0; kind < 7; kind++) {
+      x.change(kind, 3, 20);
+    }
+    allAre("follows, gap -10", x, 8, -1, -2, -1, -2, 0, -1, -2);
   }
 
   private static ListenWood withNumbers(int grain, int tone, int cracks, int age) {

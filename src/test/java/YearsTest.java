@@ -4,6 +4,7 @@ public final class YearsTest {
 
   public static void main(String[] args) {
     goByRange();
+    lastYear();
     eventsHappen();
     planksGrow();
     limitsHold();
@@ -15,6 +16,8 @@ public final class YearsTest {
     rings();
     taken();
     tuned();
+    farTaken();
+    farRings();
     due.end();
   }
 
@@ -27,6 +30,32 @@ public final class YearsTest {
     due.is("10: 1", x.go(1), 0);
     due.is("10: 60", x.go(60), 0);
     due.is("10: year", x.now(0), 61);
+  }
+
+  /** The document leaves it free, since it takes more than 512 calls; but no call may throw there. */
+  private static void lastYear() {
+    ListenWood x = new ListenWood();
+    for (int i = 0; i < 1666; i++) {
+      x.go(60);
+    }
+    due.is("10: 99960", x.now(0), 99960);
+    due.is("10: above 99999", x.go(40), Due.STATE);
+    due.is("10: stays", x.now(0), 99960);
+    x.go(38);
+    x.image();
+    due.is("24: above 99999", x.feuds(2), Due.STATE);
+    due.is("24: up to 99999", x.feuds(1), 0);
+    x.undo();
+    due.is("10: up to 99999", x.go(1), 0);
+    due.is("10: 99999", x.now(0), 99999);
+    due.is("10: one more", x.go(1), Due.STATE);
+    due.is("24: one more", x.feuds(1), Due.STATE);
+    due.is("24: z stays", x.count(6), 1);
+    due.is("24: beyond first", x.feuds(0), Due.BEYOND);
+    due.is("10: beyond first", x.go(0), Due.BEYOND);
+    due.is("41: state", x.status(4), 4);
+    x.plank(0, 1);
+    due.is("12: the year stays the last", x.ahead(0, 2, 100), 300);
   }
 
   private static void eventsHappen() {
@@ -42,6 +71,9 @@ public final class YearsTest {
     x.event(0, 599);
     x.go(1);
     due.is("10: year 6 has event 0", x.houseOf(5, 1), 99);
+    x.event(1, 500);
+    x.go(1);
+    due.is("10: a mood of 0", x.houseOf(5, 1), 0);
     // The event comes first: a deal hears by the mood that it makes.
     ListenWood y = new ListenWood();
     y.plank(5, 0);
@@ -301,5 +333,38 @@ public final class YearsTest {
     due.is("16: above the mood", x.tuned(1, 51), Due.NONE);
     x.change(0, 3, 42);
     due.is("16: now", x.tuned(0, 42), 0);
+  }
+
+  /** The 200th year is looked at, the 201st isn't. */
+  private static void farTaken() {
+    ListenWood x = new ListenWood();
+    x.each(60);
+    x.go(1);
+    // Makers come in the years 60, 120, 180, 240: behind 60, 120, 180 years.
+    x.plank(4, 0);
+    due.is("15: behind 180", x.taken(0, 3), 180);
+    ListenWood y = new ListenWood();
+    y.each(40);
+    y.plank(4, 0);
+    due.is("15: the makers of year 160", y.taken(0, 4), 161);
+    y.go(1);
+    due.is("15: behind 200", y.taken(0, 5), 200);
+    ListenWood z = new ListenWood();
+    z.each(40);
+    z.plank(4, 0);
+    due.is("15: behind 201", z.taken(0, 5), Due.NONE);
+  }
+
+  private static void farRings() {
+    ListenWood x = new ListenWood();
+    x.each(3);
+    x.plank(0, 1);
+    x.house(1, 0, 1);
+    // Its grain is 100 in year 99, when it is taken, and in year 199, when it isn't.
+    due.is("14: behind 200", x.rings(0), 200);
+    x.each(9);
+    due.is("14: behind 200 again", x.rings(0), 200);
+    x.each(4);
+    due.is("14: behind 100", x.rings(0), 100);
   }
 }
