@@ -185,7 +185,8 @@ public final class ListenWood {
       return finding(BEYOND);
     }
     trial.become(valley);
-    return trialGold(n);
+    trial.passYears(n);
+    return trial.gold;
   }
 
   public int rings(int plank) {
@@ -258,10 +259,10 @@ public final class ListenWood {
     for (int each = MIN_EACH; each <= MAX_EACH; each++) {
       trial.become(valley);
       trial.each = each;
-      int gold = trialGold(n);
-      if (gold > most) {
+      trial.passYears(n);
+      if (trial.gold > most) {
         best = each;
-        most = gold;
+        most = trial.gold;
       }
     }
     return best;
@@ -554,11 +555,6 @@ public final class ListenWood {
     return isPlank(plank) ? FINE : BEYOND;
   }
 
-  private int trialGold(int n) {
-    trial.passYears(n);
-    return trial.gold;
-  }
-
   /** Behind how many YEARS of the trial a PLANK's number in one of the trial's rows is v or more. */
   private int yearsUntil(int[] row, int plank, int v) {
     for (int n = 0; n <= MAX_SEARCHED; n++) {
@@ -577,10 +573,10 @@ public final class ListenWood {
     for (int c = 0; c < choices; c++) {
       trial.become(valley);
       row[plank] = c;
-      int gold = trialGold(n);
-      if (gold > most) {
+      trial.passYears(n);
+      if (trial.gold > most) {
         best = c;
-        most = gold;
+        most = trial.gold;
       }
     }
     return best;
@@ -993,8 +989,7 @@ public final class ListenWood {
     private int token = END;
     private int start = 0;
     private int end = 0;
-    /** What the token tells, if it is a NUMBER, and what the one taken latest told. */
-    private int number = 0;
+    /** What the NUMBER taken latest told. */
     private int told = 0;
 
     void append(int b) {
@@ -1127,12 +1122,25 @@ public final class ListenWood {
     }
 
     private boolean takeNumber(int least, int most) {
-      if (token != NUMBER || number < least || number > most) {
+      if (token != NUMBER) {
+        return false;
+      }
+      int number = numberTold();
+      if (number < least || number > most) {
         return false;
       }
       told = number;
       nextToken();
       return true;
+    }
+
+    /** Held just above the greatest that may be told, since the digits may be many. */
+    private int numberTold() {
+      int number = 0;
+      for (int i = start; i < end; i++) {
+        number = Math.min(MAX_NUMBER + 1, 10 * number + bytes[i] - '0');
+      }
+      return number;
     }
 
     private boolean isWord(String word) {
@@ -1152,42 +1160,30 @@ public final class ListenWood {
       while (start < length && bytes[start] == ' ') {
         start++;
       }
-      end = start;
+      int wordEnd = endOfThose('a', 'z');
+      int numberEnd = endOfThose('0', '9');
       if (start >= length) {
         token = END;
-      } else if (isLetter(bytes[start])) {
+        end = start;
+      } else if (wordEnd > start) {
         token = WORD;
-        endWord();
-      } else if (isDigit(bytes[start])) {
+        end = wordEnd;
+      } else if (numberEnd > start) {
         token = NUMBER;
-        endNumber();
+        end = numberEnd;
       } else {
         token = bytes[start] == ';' ? SIGN : NO_TOKEN;
         end = start + 1;
       }
     }
 
-    private void endWord() {
-      while (end < length && isLetter(bytes[end])) {
-        end++;
+    /** Where the bytes from one to another, of which as many as can be stand at start, are over. */
+    private int endOfThose(int from, int to) {
+      int i = start;
+      while (i < length && bytes[i] >= from && bytes[i] <= to) {
+        i++;
       }
-    }
-
-    private void endNumber() {
-      number = 0;
-      while (end < length && isDigit(bytes[end])) {
-        // Held just above the greatest that may be told, since the digits may be many.
-        number = Math.min(MAX_NUMBER + 1, 10 * number + bytes[end] - '0');
-        end++;
-      }
-    }
-
-    private static boolean isLetter(int b) {
-      return b >= 'a' && b <= 'z';
-    }
-
-    private static boolean isDigit(int b) {
-      return b >= '0' && b <= '9';
+      return i;
     }
   }
 }

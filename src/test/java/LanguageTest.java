@@ -8,7 +8,9 @@ import java.util.ArrayList;
 import java.util.Collections;
 import java.util.HashSet;
 import java.util.List;
+import java.util.Map;
 import java.util.Set;
+import java.util.TreeMap;
 import java.util.regex.Matcher;
 import java.util.regex.Pattern;
 
@@ -24,6 +26,7 @@ public final class LanguageTest {
     nestedClasses();
     words();
     lengths();
+    depths();
     due.end();
   }
 
@@ -125,6 +128,39 @@ public final class LanguageTest {
         due.is("short enough: " + lines.get(begin), i - begin <= 60 ? 1 : 0, 1);
         begin = -1;
       }
+    }
+  }
+
+  /** By the name of each method of the source: its lines from head to end. */
+  private static Map<String, String> bodies() throws IOException {
+    Map<String, String> bodies = new TreeMap<>();
+    Matcher m = Pattern.compile("(?m)^( {2}| {4})(?:(?:private|public|static) )*[\\w\\[\\]]+ (\\w+)\\(.*\\) \\{$")
+        .matcher(code());
+    while (m.find()) {
+      String rest = code().substring(m.end());
+      String body = rest.substring(0, rest.indexOf("\n" + m.group(1) + "}"));
+      due.is("one method of the name " + m.group(2), bodies.put(m.group(2), body) == null ? 1 : 0, 1);
+    }
+    return bodies;
+  }
+
+  /** How many calls stand open at once at most, this one too; above forty if one calls itself. */
+  private static int depth(String name, Map<String, String> bodies, int open) {
+    int most = 0;
+    Matcher m = Pattern.compile("\\b(\\w+)\\(").matcher(bodies.get(name));
+    while (open <= 40 && m.find()) {
+      if (bodies.containsKey(m.group(1))) {
+        most = Math.max(most, depth(m.group(1), bodies, open + 1));
+      }
+    }
+    return 1 + most;
+  }
+
+  private static void depths() throws IOException {
+    Map<String, String> bodies = bodies();
+    due.is("methods were found", bodies.size() > 40 ? 1 : 0, 1);
+    for (String name : bodies.keySet()) {
+      due.is("at most eight deep: " + name, depth(name, bodies, 1) <= 8 ? 1 : 0, 1);
     }
   }
 }
