@@ -1,3 +1,8 @@
+import java.io.IOException;
+import java.io.UncheckedIOException;
+import java.nio.file.Files;
+import java.nio.file.Path;
+
 /** Compares answers with those that are due, and ends a test with exit code 1 if one differs. */
 final class Due {
   static final long BEYOND = -1000001L;
@@ -8,14 +13,36 @@ final class Due {
   static final long MISSING = -1000006L;
   static final long SIZE = -1000007L;
 
+  private static final Path DOCUMENT = Path.of("../shared/DOC.md");
+
+  private String document = null;
+  private String words = "";
   private int asked = 0;
   private int wrong = 0;
+
+  /** The sentence of the document by which the answers from here on are due: it must stand there. */
+  void by(String sentence) {
+    if (document == null) {
+      document = readDocument();
+    }
+    words = "";
+    is("that the document says: " + sentence, document.contains(sentence) ? 1 : 0, 1);
+    words = " (" + sentence + ")";
+  }
+
+  private static String readDocument() {
+    try {
+      return Files.readString(DOCUMENT).replaceAll("\\s+", " ");
+    } catch (IOException e) {
+      throw new UncheckedIOException(e);
+    }
+  }
 
   void is(String call, long got, long want) {
     asked++;
     if (got != want) {
       wrong++;
-      System.out.println(call + " answered " + got + ", due is " + want);
+      System.out.println(call + " answered " + got + ", due is " + want + words);
     }
   }
 
@@ -44,5 +71,14 @@ final class Due {
     for (int i = 0; i < numbers.length; i++) {
       x.write(s, i, numbers[i]);
     }
+  }
+
+  /** A new object with a plank of each of these kinds in house 0. */
+  static ListenWood withKinds(int... kinds) {
+    ListenWood x = new ListenWood();
+    for (int kind : kinds) {
+      x.plank(kind, 0);
+    }
+    return x;
   }
 }

@@ -4,7 +4,6 @@ public final class YearsTest {
 
   public static void main(String[] args) {
     goByRange();
-    lastYear();
     eventsHappen();
     planksGrow();
     limitsHold();
@@ -30,32 +29,6 @@ public final class YearsTest {
     due.is("10: 1", x.go(1), 0);
     due.is("10: 60", x.go(60), 0);
     due.is("10: year", x.now(0), 61);
-  }
-
-  /** The document leaves it free, since it takes more than 512 calls; but no call may throw there. */
-  private static void lastYear() {
-    ListenWood x = new ListenWood();
-    for (int i = 0; i < 1666; i++) {
-      x.go(60);
-    }
-    due.is("10: 99960", x.now(0), 99960);
-    due.is("10: above 99999", x.go(40), Due.STATE);
-    due.is("10: stays", x.now(0), 99960);
-    x.go(38);
-    x.image();
-    due.is("24: above 99999", x.feuds(2), Due.STATE);
-    due.is("24: up to 99999", x.feuds(1), 0);
-    x.undo();
-    due.is("10: up to 99999", x.go(1), 0);
-    due.is("10: 99999", x.now(0), 99999);
-    due.is("10: one more", x.go(1), Due.STATE);
-    due.is("24: one more", x.feuds(1), Due.STATE);
-    due.is("24: z stays", x.count(6), 1);
-    due.is("24: beyond first", x.feuds(0), Due.BEYOND);
-    due.is("10: beyond first", x.go(0), Due.BEYOND);
-    due.is("41: state", x.status(4), 4);
-    x.plank(0, 1);
-    due.is("12: the year stays the last", x.ahead(0, 2, 100), 300);
   }
 
   private static void eventsHappen() {
